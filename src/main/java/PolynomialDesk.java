@@ -404,10 +404,11 @@ public final class PolynomialDesk {
             return product;
         }
 
+        /** The number is not negative, and at most a product of two numbers of the field. */
         private void addAt(int key, int number, int[] to) {
             int index = key >= 0 && key < KEYS ? indexes[key] : NONE;
-            if (index >= 0 && index < MONOMIALS) {
-                to[index] = reduce(to[index] + number);
+            if (index >= 0 && index < MONOMIALS && prime > 1) {
+                to[index] = (to[index] + number) % prime;
             }
         }
 
