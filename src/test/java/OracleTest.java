@@ -1,14 +1,15 @@
 import java.util.Random;
 
-/** Runs of 512 calls, chosen by a fixed seed, each answer against the Reference's. */
+/** Runs of up to 512 calls, chosen by a fixed seed, each answer against the Reference's. */
 public final class OracleTest {
-    private static final int RUNS = 400;
-    private static final int CALLS = 512;
+    private static final int RUNS = 3000;
+    private static final int TEXT_CALLS = 30;
     private static final int[] PRIMES = {2, 3, 5, 7, 11, 101, 251, 31991, 32003};
+    private static final int[] EDGES = {Integer.MIN_VALUE, -8, -1, 0, 1, 3, 7, 8, 9, 126, Integer.MAX_VALUE};
 
     private final Checks checks = new Checks();
     private final Random random = new Random(20261115);
-    private PolynomialDesk desk;
+    private Desk desk;
     private Reference reference;
     private int variables;
     private int read;
@@ -17,11 +18,12 @@ public final class OracleTest {
     public static void main(String[] args) {
         OracleTest test = new OracleTest();
         for (int run = 0; run < RUNS; run++) {
-            test.desk = new PolynomialDesk();
+            test.desk = new Desk();
             test.reference = new Reference();
             test.variables = 2;
-            for (int call = 0; call < CALLS; call++) {
-                test.oneCall(run);
+            // A step reads at most one text, and looks at what it made.
+            while (test.desk.callsLeft() > 2 * TEXT_CALLS) {
+                test.oneStep("run " + run + ": ");
             }
         }
         test.checks.due("every kind of fault was met often", test.metOften(), true);
@@ -33,12 +35,12 @@ public final class OracleTest {
         return read > 1000 && faults[1] > 100 && faults[2] > 100 && faults[3] > 100 && faults[4] > 100;
     }
 
-    private void same(String what, Checks.Call got, Checks.Call want) {
-        checks.due(what, Checks.outcome(got), Checks.outcome(want));
+    private void same(String what, Object got, Outcome.Call want) {
+        checks.due(what, got, Outcome.of(want));
     }
 
-    private void sameDone(String what, Runnable got, Runnable want) {
-        checks.due(what, Checks.outcome(got), Checks.outcome(want));
+    private void sameDone(String what, Object got, Runnable want) {
+        checks.due(what, got, Outcome.ofVoid(want));
     }
 
     private int any(int from, int to) {
@@ -47,16 +49,14 @@ public final class OracleTest {
 
     /** Mostly one that is there; now and then one far off. */
     private int index(int last) {
-        int[] edges = Checks.edges();
-        return random.nextInt(40) == 0 ? edges[random.nextInt(edges.length)] : any(0, last);
+        return random.nextInt(40) == 0 ? EDGES[random.nextInt(EDGES.length)] : any(0, last);
     }
 
     private int number() {
         return random.nextInt(4) == 0 ? random.nextInt() : any(-3, 40);
     }
 
-    private void oneCall(int run) {
-        String at = "run " + run + ": ";
+    private void oneStep(String at) {
         switch (random.nextInt(20)) {
             case 0 -> changeField(at);
             case 1, 2, 3, 4, 5 -> readOne(at);
@@ -64,30 +64,25 @@ public final class OracleTest {
             case 8, 9, 10 -> multiplyOne(at);
             case 11 -> deriveOne(at);
             case 12 -> setOne(at);
-            case 13 -> valueOne(at);
-            case 14 -> putOne(at);
-            case 15, 16 -> printOne(at);
-            default -> lookAtOne(at);
+            case 13 -> putOne(at);
+            case 14 -> printOne(at, index(7));
+            default -> lookAt(at, index(7));
         }
     }
 
     private void changeField(String at) {
-        // A field change empties all polynomials, so that too many of them would leave nothing to reckon with.
-        if (random.nextInt(4) != 0) {
-            return;
-        }
         int p = random.nextInt(6) == 0 ? any(-2, 32010) : PRIMES[random.nextInt(PRIMES.length)];
         int n = random.nextInt(10) == 0 ? any(-1, 6) : any(1, 4);
         int order = random.nextInt(10) == 0 ? any(-1, 2) : any(0, 1);
-        Object want = Checks.outcome(() -> reference.field(p, n, order));
-        checks.due(at + "field " + p + " " + n + " " + order, Checks.outcome(() -> desk.field(p, n, order)), want);
-        if (want.equals("done")) {
+        Object got = desk.field(p, n, order);
+        sameDone(at + "field " + p + " " + n + " " + order, got, () -> reference.field(p, n, order));
+        if (got.equals(Outcome.DONE)) {
             variables = n;
         }
     }
 
     private void putBoth(String at, long v, int n) {
-        checks.due(at + "put " + v + " " + n, desk.put(v, n), reference.put(v, n));
+        same(at + "put " + v + " " + n, desk.put(v, n), () -> reference.put(v, n));
     }
 
     private void putOne(String at) {
@@ -102,30 +97,19 @@ public final class OracleTest {
         String text = new Texts(random, variables).text();
         for (int begin = 0; begin < text.length(); begin += 8) {
             String part = text.substring(begin, Math.min(begin + 8, text.length()));
-            long v = random.nextInt();
-            for (char c : part.toCharArray()) {
-                v = v << 8 | c;
-            }
-            putBoth(at, v, part.length());
+            // What stands above the bytes that come must not count.
+            long above = part.length() == 8 ? 0 : random.nextLong() << 8 * part.length();
+            putBoth(at, above | Desk.bytes(part), part.length());
         }
         int k = index(7);
         String what = at + "of '" + text + "' with " + variables + " ";
-        Object want = Checks.outcome(() -> reference.read(k));
-        checks.due(what + "read " + k, Checks.outcome(() -> desk.read(k)), want);
-        checks.due(what + "fault 0", desk.fault(0), reference.fault(0));
-        checks.due(what + "fault 1", desk.fault(1), reference.fault(1));
+        Object got = desk.read(k);
+        same(what + "read " + k, got, () -> reference.read(k));
+        same(what + "fault 0", desk.fault(0), () -> reference.fault(0));
+        same(what + "fault 1", desk.fault(1), () -> reference.fault(1));
         faults[reference.fault(0)]++;
-        read += want instanceof Integer ? 1 : 0;
-        samePrinted(what, k);
-    }
-
-    private void samePrinted(String what, int k) {
-        same(what + "print " + k, () -> desk.print(k), () -> reference.print(k));
-        StringBuilder want = new StringBuilder();
-        for (int i = 0; reference.output(i) >= 0; i++) {
-            want.append((char) reference.output(i));
-        }
-        checks.due(what + "output", Checks.output(desk), want.toString());
+        read += got instanceof Integer ? 1 : 0;
+        lookAt(what, k);
     }
 
     private void addOne(String at) {
@@ -133,24 +117,24 @@ public final class OracleTest {
         int b = index(7);
         int to = index(7);
         int f = number();
-        sameDone(at + "add", () -> desk.add(a, f, b, to), () -> reference.add(a, f, b, to));
-        samePrinted(at + "add", to);
+        sameDone(at + "add", desk.add(a, f, b, to), () -> reference.add(a, f, b, to));
+        lookAt(at + "add ", to);
     }
 
     private void multiplyOne(String at) {
         int a = index(7);
         int b = index(7);
         int to = index(7);
-        sameDone(at + "multiply", () -> desk.multiply(a, b, to), () -> reference.multiply(a, b, to));
-        samePrinted(at + "multiply", to);
+        sameDone(at + "multiply", desk.multiply(a, b, to), () -> reference.multiply(a, b, to));
+        lookAt(at + "multiply ", to);
     }
 
     private void deriveOne(String at) {
         int a = index(7);
         int v = index(variables);
         int to = index(7);
-        sameDone(at + "derive", () -> desk.derive(a, v, to), () -> reference.derive(a, v, to));
-        samePrinted(at + "derive", to);
+        sameDone(at + "derive", desk.derive(a, v, to), () -> reference.derive(a, v, to));
+        lookAt(at + "derive ", to);
     }
 
     private void setOne(String at) {
@@ -158,32 +142,43 @@ public final class OracleTest {
         int v = index(variables);
         int to = index(7);
         int number = number();
-        sameDone(at + "set", () -> desk.set(a, v, number, to), () -> reference.set(a, v, number, to));
-        samePrinted(at + "set", to);
+        sameDone(at + "set", desk.set(a, v, number, to), () -> reference.set(a, v, number, to));
+        lookAt(at + "set ", to);
     }
 
-    private void valueOne(String at) {
-        int a = index(7);
+    /** As much of the output as calls are left for. */
+    private void printOne(String at, int k) {
+        same(at + "print " + k, desk.print(k), () -> reference.print(k));
+        for (int i = 0; desk.callsLeft() > 0 && (i == 0 || reference.output(i - 1) >= 0); i++) {
+            int each = i;
+            same(at + "output " + i, desk.output(i), () -> reference.output(each));
+        }
+        sameByte(at, index(12));
+    }
+
+    private void sameByte(String at, int i) {
+        if (desk.callsLeft() > 0) {
+            same(at + "output " + i, desk.output(i), () -> reference.output(i));
+        }
+    }
+
+    private void lookAt(String at, int k) {
         int x = number();
         int y = number();
         int z = number();
         int w = number();
-        same(at + "value", () -> desk.value(a, x, y, z, w), () -> reference.value(a, x, y, z, w));
-    }
-
-    private void printOne(String at) {
-        samePrinted(at, index(7));
-    }
-
-    private void lookAtOne(String at) {
-        int k = index(7);
-        int i = index(12);
+        same(at + "value of " + k, desk.value(k, x, y, z, w), () -> reference.value(k, x, y, z, w));
+        same(at + "terms of " + k, desk.about(k, 0), () -> reference.about(k, 0));
+        same(at + "degree of " + k, desk.about(k, 1), () -> reference.about(k, 1));
+        int i = any(-1, Math.max(0, reference.about(k, 0)));
+        for (int what = 0; what < 5; what++) {
+            int each = what;
+            same(at + "term " + k + " " + i + " " + what, desk.term(k, i, what), () -> reference.term(k, i, each));
+        }
         int what = index(5);
-        checks.due(at + "term " + k + " " + i + " " + what, desk.term(k, i, what), reference.term(k, i, what));
-        checks.due(at + "about " + k + " " + what, desk.about(k, what), reference.about(k, what));
-        checks.due(at + "about " + k, desk.about(k, 0), reference.about(k, 0));
-        checks.due(at + "degree " + k, desk.about(k, 1), reference.about(k, 1));
-        checks.due(at + "fault " + what, desk.fault(what), reference.fault(what));
-        checks.due(at + "output " + i, desk.output(i), reference.output(i));
+        same(at + "term " + k + " 0 " + what, desk.term(k, 0, what), () -> reference.term(k, 0, what));
+        same(at + "about " + k + " " + what, desk.about(k, what), () -> reference.about(k, what));
+        same(at + "fault " + what, desk.fault(what), () -> reference.fault(what));
+        sameByte(at, index(12));
     }
 }
