@@ -205,7 +205,7 @@ public final class FieldTest extends Cases {
             is("read", desk.read(0), 2);
             is("printed", desk.printed(0), "10*z+98");
         });
-        of("2 field, text that was refused none of stays none", () -> {
+        of("2 field, no text in hand behind a put that was refused", () -> {
             Desk desk = new Desk();
             is("9 bytes", desk.put('x', 9), false);
             is("field", desk.field(5, 1, 0), Outcome.DONE);
